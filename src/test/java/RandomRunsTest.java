@@ -1,0 +1,239 @@
+import java.lang.reflect.InvocationTargetException;
+import java.lang.reflect.Method;
+import java.nio.charset.StandardCharsets;
+import java.util.NoSuchElementException;
+import java.util.Random;
+
+/**
+ * Runs of calls on small desks, drawn with a fixed seed, each answer compared with the Model's
+ * (promises 1 to 46 together), and texts with something wrong in them (promises 3, 4, 5).
+ */
+public final class RandomRunsTest {
+    private static final int RUNS = 400;
+    private static final int CALLS = 200;
+    private static final int TEXTS = 30000;
+    private static final int MOST_SMALL = 13;
+
+    /** Calls with the sorts of their numbers: see number(). */
+    private static final String[] CALLS_OF_THE_FACE = {
+        "fault", "where", "about w", "spot s w", "departure d w", "ordered d",
+        "arrives s s t", "changes s s t", "leaves s s t", "rides s s t", "ride s s t i", "stands s s t",
+        "trades s s t", "trade s s t i w", "within s s t k",
+        "latest s s t", "reach s t t", "farthest s t", "meets s s t", "round s s t y",
+        "steps s s", "step s s i w", "quickest s s", "spent s s t t", "others s s t", "other s s t i",
+        "pairs t", "hub t", "slowest t",
+        "needs s s t d", "vital s s t", "slack s s t d", "why s s t i",
+        "cancel d", "run d", "delay d v", "change s v", "hold s h", "extra l s s t v", "undo",
+        "still i", "size w", "trouble",
+    };
+
+    private final Random random;
+    private int spots;
+    private int departures;
+
+    private RandomRunsTest(long seed) {
+        random = new Random(seed);
+    }
+
+    public static void main(String[] args) throws ReflectiveOperationException {
+        for (int run = 0; run < RUNS; run++) {
+            new RandomRunsTest(run).compareRun(run);
+        }
+        new RandomRunsTest(4711).compareTexts();
+        Bench.end("RandomRunsTest");
+    }
+
+    private void compareRun(int run) throws ReflectiveOperationException {
+        LinkTimes x = new LinkTimes();
+        Model model = new Model();
+        String said = "run " + run + ":";
+        for (int i = 0; i < CALLS; i++) {
+            if (i == 3 || random.nextInt(90) == 0) {
+                String text = deskText();
+                compareDesk(said, x, model, text, text.length());
+                departures = Math.max(0, model.about(4));
+                x.about(4);
+                continue;
+            }
+            String[] call = CALLS_OF_THE_FACE[random.nextInt(CALLS_OF_THE_FACE.length)].split(" ");
+            if (call[0].equals("extra") && model.about(4) >= MOST_SMALL) {
+                // The Model writes all WAYS out: more departures would keep it too long.
+                x.about(4);
+                continue;
+            }
+            compareCall(said, x, model, call);
+        }
+    }
+
+    private void compareCall(String said, LinkTimes x, Model model, String[] call)
+            throws ReflectiveOperationException {
+        Object[] numbers = new Object[call.length - 1];
+        Class<?>[] types = new Class<?>[call.length - 1];
+        StringBuilder told = new StringBuilder(said).append(' ').append(call[0]).append('(');
+        for (int i = 0; i < numbers.length; i++) {
+            numbers[i] = number(call[i + 1]);
+            types[i] = int.class;
+            told.append(i > 0 ? ", " : "").append(numbers[i]);
+        }
+        told.append(')');
+        long want = ask(Model.class.getDeclaredMethod(call[0], types), model, numbers);
+        long got = ask(LinkTimes.class.getMethod(call[0], types), x, numbers);
+        Bench.due(told.toString(), got, want);
+        Bench.due("trouble() behind " + told, x.trouble(), model.trouble());
+    }
+
+    private static long ask(Method method, Object object, Object[] numbers) throws ReflectiveOperationException {
+        try {
+            Object answer = method.invoke(object, numbers);
+            return answer instanceof Boolean ? ((Boolean) answer ? 1 : 0) : (Integer) answer;
+        } catch (InvocationTargetException thrown) {
+            return thrown.getCause() instanceof NoSuchElementException ? 777777 : 888888;
+        }
+    }
+
+    /** A number of a sort, mostly one that fits. */
+    private int number(String sort) {
+        if (random.nextInt(40) == 0) {
+            int[] wild = {-3, -2, -1, 0, 99, 100, 999, 1000, 1999, 2000, Integer.MAX_VALUE, Integer.MIN_VALUE};
+            return wild[random.nextInt(wild.length)];
+        }
+        switch (sort) {
+            case "s":
+                return random.nextInt(spots + 1) - random.nextInt(30) / 29;
+            case "d":
+                return random.nextInt(departures + 3) - random.nextInt(30) / 29;
+            case "t":
+                return random.nextInt(10) == 0 ? random.nextInt(2002) - 1 : random.nextInt(45);
+            case "w":
+                return random.nextInt(10) - 1;
+            case "i":
+                return random.nextInt(5) - random.nextInt(10) / 9;
+            case "k":
+                return random.nextInt(4) == 0 ? random.nextInt(24) - 1 : random.nextInt(3);
+            case "l":
+                return random.nextInt(4);
+            case "v":
+                return random.nextInt(4) == 0 ? random.nextInt(103) - 1 : random.nextInt(12);
+            case "h":
+                return random.nextInt(4) == 0 ? random.nextInt(1003) - 2 : random.nextInt(14) - 1;
+            default:
+                return random.nextInt(20);
+        }
+    }
+
+    /** A small desk, with times so near to one another that many of them are alike. */
+    private String deskText() {
+        spots = 2 + random.nextInt(4);
+        int lines = 1 + random.nextInt(3);
+        StringBuilder text = new StringBuilder("desk span 40");
+        for (int s = 0; s < spots; s++) {
+            text.append(";spot s").append((char) ('a' + s)).append(" change ").append(random.nextInt(4));
+            if (random.nextInt(2) == 0) {
+                text.append(" wait ").append(random.nextInt(12));
+            }
+        }
+        for (int l = 0; l < lines; l++) {
+            text.append(";line l").append((char) ('a' + l));
+        }
+        int room = MOST_SMALL - 2;
+        int links = random.nextInt(9);
+        for (int k = 0; k < links && room > 0; k++) {
+            int a = random.nextInt(spots);
+            int b = (a + 1 + random.nextInt(spots - 1)) % spots;
+            int from = random.nextInt(26);
+            int n = 1 + random.nextInt(Math.min(room, 3));
+            int every = 1 + random.nextInt(5);
+            room -= n;
+            text.append(";link l").append((char) ('a' + random.nextInt(lines)));
+            text.append(" s").append((char) ('a' + a)).append(" s").append((char) ('a' + b));
+            text.append(" from ").append(from).append(" till ").append(from + (n - 1) * every);
+            text.append(" every ").append(every).append(" takes ").append(1 + random.nextInt(7));
+        }
+        return text.toString();
+    }
+
+    private static void compareDesk(String said, LinkTimes x, Model model, String text, int n) {
+        String call = said + " desk of '" + text + "'";
+        Bench.put(x, text);
+        for (int at = 0; at < text.length(); at += 20) {
+            String twenty = text.substring(at, Math.min(at + 20, text.length()));
+            model.feed(twenty + " ".repeat(20 - twenty.length()));
+        }
+        Bench.due("size(0) ahead of " + call, x.size(0), model.size(0));
+        Bench.due(call, x.desk(n), model.desk(n));
+        Bench.due("trouble() behind " + call, x.trouble(), model.trouble());
+        Bench.due("fault() behind " + call, x.fault(), model.fault());
+        Bench.due("where() behind " + call, x.where(), model.where());
+    }
+
+    /** Texts with one or two places changed: a byte, a token, a part that is gone or comes twice. */
+    private void compareTexts() {
+        LinkTimes x = new LinkTimes();
+        Model model = new Model();
+        for (int i = 0; i < TEXTS; i++) {
+            if (i % 100 == 0) {
+                x = new LinkTimes();
+                model = new Model();
+            }
+            String text = random.nextInt(3) == 0 ? fullText() : deskText();
+            for (int k = random.nextInt(3); k >= 0; k--) {
+                text = spoil(text);
+            }
+            byte[] bytes = text.getBytes(StandardCharsets.ISO_8859_1);
+            text = new String(bytes, 0, Math.min(bytes.length, 890), StandardCharsets.ISO_8859_1);
+            compareDesk("text " + i + ":", x, model, text, text.length());
+            for (int what = 0; what <= 5; what++) {
+                Bench.due("about(" + what + ") behind text " + i, x.about(what), model.about(what));
+            }
+        }
+    }
+
+    /** A text near the most that there is room for. */
+    private String fullText() {
+        StringBuilder text = new StringBuilder("desk span 999");
+        int told = 9 + random.nextInt(3);
+        for (int s = 0; s < told; s++) {
+            text.append(";spot ").append((char) ('a' + s)).append(" change ").append(random.nextInt(101));
+        }
+        for (int l = 0; l < 7 + random.nextInt(3) - random.nextInt(2); l++) {
+            text.append(";line ").append((char) ('p' + l));
+        }
+        int every = 60 + random.nextInt(60);
+        for (int k = 0; k < 10 + random.nextInt(4); k++) {
+            text.append(";link p a b from 0 till ").append(990 + random.nextInt(11));
+            text.append(" every ").append(every).append(" takes 9");
+        }
+        return text.toString();
+    }
+
+    private String spoil(String text) {
+        if (text.isEmpty()) {
+            return " ";
+        }
+        int at = random.nextInt(text.length());
+        String[] parts = {";", " ", "  ", "desk", "desk span 5", "spot", "line", "link", "wait 3", "change", "a",
+            "sa", "la", "lb", "abcdefg", "abcdef", "0", "00", "100", "1000", "00005", "#", "A", "\u00e9", "\u0000"};
+        String part = parts[random.nextInt(parts.length)];
+        switch (random.nextInt(5)) {
+            case 0:
+                return text.substring(0, at) + part + text.substring(at + 1);
+            case 1:
+                return text.substring(0, at) + part + text.substring(at);
+            case 2:
+                return text.substring(0, at);
+            case 3:
+                return swapToken(text, part);
+            default:
+                int stop = Math.min(text.length(), at + 1 + random.nextInt(12));
+                return text.substring(0, at) + text.substring(stop);
+        }
+    }
+
+    private String swapToken(String text, String part) {
+        String[] words = text.split(" ");
+        if (words.length > 0) {
+            words[random.nextInt(words.length)] = part;
+        }
+        return String.join(" ", words);
+    }
+}
