@@ -1216,9 +1216,9 @@ public final class LinkTimes {
         final int[] leave = new int[MOST_DEPARTURES];
         final int[] arrive = new int[MOST_DEPARTURES];
         final boolean[] runs = new boolean[MOST_DEPARTURES];
-        /** All departures by the time at which they leave. */
+        /** All departures, those that don't run too, by the time at which they leave. */
         final int[] order = new int[MOST_DEPARTURES];
-        /** Those that run, spot by spot from which they leave; those of s from first[s] to first[s + 1]. */
+        /** The same, spot by spot from which they leave: those of s from first[s] to ahead of first[s + 1]. */
         final int[] bySpot = new int[MOST_DEPARTURES];
         final int[] first = new int[MOST_SPOTS + 1];
         Desk desk;
@@ -1264,14 +1264,12 @@ public final class LinkTimes {
 
         void setRuns(int d, boolean on) {
             runs[d] = on && !desk.off[d];
-            group();
         }
 
         void dropAll(Way way) {
             for (int i = 0; i < way.count; i++) {
                 runs[way.row[i]] = false;
             }
-            group();
         }
 
         /** As if a departure left a tick later. */
@@ -1332,20 +1330,16 @@ public final class LinkTimes {
                 first[s] = 0;
             }
             for (int d = 0; d < count; d++) {
-                if (runs[d]) {
-                    first[desk.from[d]]++;
-                }
+                first[desk.from[d]]++;
             }
             for (int s = 1; s <= desk.spotCount; s++) {
                 first[s] += first[s - 1];
             }
             // Each spot's end moves down to its beginning, while its part is filled from behind.
             for (int i = count - 1; i >= 0; i--) {
-                int d = order[i];
-                if (runs[d]) {
-                    first[desk.from[d]]--;
-                    bySpot[first[desk.from[d]]] = d;
-                }
+                int s = desk.from[order[i]];
+                first[s]--;
+                bySpot[first[s]] = order[i];
             }
         }
     }

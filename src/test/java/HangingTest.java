@@ -5,6 +5,7 @@ public final class HangingTest {
         vitalCall();
         slackCall();
         slackGap();
+        slackInBetween();
         whyCall();
         nothingStays();
         Bench.end("HangingTest");
@@ -77,6 +78,29 @@ public final class HangingTest {
                 + "link r a b from 10 till 10 every 1 takes 5;link r b c from 300 till 300 every 1 takes 5");
         x.delay(0, 99);
         Bench.good(x, "slack(0, 2, 0, 0) of very much", x.slack(0, 2, 0, 0), 99);
+        x = Bench.with("desk span 500;spot a change 0;spot b change 0;spot c change 0;line r;"
+                + "link r a b from 0 till 0 every 1 takes 1;link r b c from 99 till 99 every 1 takes 5");
+        Bench.good(x, "slack(0, 2, 0, 0) of 98", x.slack(0, 2, 0, 0), 98);
+        x.delay(1, 1);
+        Bench.good(x, "slack(0, 2, 0, 0) of 99", x.slack(0, 2, 0, 0), 99);
+    }
+
+    /** One that leaves later may be waited for too long, or be met by one that comes later. */
+    private static void slackInBetween() {
+        // 0 a-b 10..15, 1 b-c 16..20, 2 c-d 50..55.
+        String text = "desk span 60;spot a change 0;spot b change 0 wait 3;spot c change 0;spot d change 0;line r;"
+                + "link r a b from 10 till 10 every 1 takes 5;link r b c from 16 till 16 every 1 takes 4;"
+                + "link r c d from 50 till 50 every 1 takes 5";
+        LinkTimes x = Bench.with(text);
+        Bench.good(x, "slack(0, 3, 0, 1): WAIT ahead of it", x.slack(0, 3, 0, 1), 2);
+        Bench.good(x, "slack(0, 3, 0, 0)", x.slack(0, 3, 0, 0), 1);
+        // 3 a-b 17..19 meets it, from when on 0 can't any more; then 50 is the end.
+        x.extra(0, 0, 1, 17, 2);
+        Bench.good(x, "slack(0, 3, 0, 1) with a later one to meet it", x.slack(0, 3, 0, 1), 6);
+        x.hold(1, 14);
+        Bench.good(x, "slack(0, 3, 0, 1) with WAIT 14", x.slack(0, 3, 0, 1), 17);
+        x.hold(1, -1);
+        Bench.good(x, "slack(0, 3, 0, 1) with any WAIT", x.slack(0, 3, 0, 1), 30);
     }
 
     private static void whyCall() {
@@ -102,6 +126,20 @@ public final class HangingTest {
         x.extra(0, 0, 4, 50, 1);
         x.cancel(12);
         reasons(x, 0, 4, 0, 1);
+        // Through the first SPOT of all; CHANGE 0 is just enough there.
+        x = Bench.with("desk span 60;spot a change 1;spot b change 1;spot c change 1;line r;line g;"
+                + "link r b a from 1 till 1 every 1 takes 4;link g a c from 5 till 5 every 1 takes 4");
+        reasons(x, 1, 2, 0, 2);
+        x.change(0, 0);
+        reasons(x, 1, 2, 0, 0);
+        x.delay(1, 1);
+        x.hold(0, 0);
+        reasons(x, 1, 2, 0, 1);
+        x = Bench.with("desk span 60;spot a change 1 wait 3;spot b change 1;spot c change 1;line r;"
+                + "link r b a from 1 till 1 every 1 takes 4;link r a c from 9 till 9 every 1 takes 4");
+        reasons(x, 1, 2, 0, 2);
+        reasons(x, 1, 2, 2, 3);
+        x = Bench.with(TextTest.BASE);
         Bench.refused(x, "why(0, 5, 0, 0)", x.why(0, 5, 0, 0), 1);
         Bench.refused(x, "why(5, 0, 0, -1)", x.why(5, 0, 0, -1), 1);
         Bench.refused(x, "why(0, 3, 2000, 0)", x.why(0, 3, 2000, 0), 2);

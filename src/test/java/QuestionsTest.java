@@ -172,6 +172,14 @@ public final class QuestionsTest {
         Bench.good(x, "other(0, 3, 0, 1)", x.other(0, 3, 0, 1), 38);
         Bench.good(x, "about(5): all of them run still", x.about(5), 12);
         Bench.refused(x, "others(1, 1, 0)", x.others(1, 1, 0), 1);
+        LinkTimes most = Bench.with("desk span 999;spot a change 0;spot b change 0;line r;"
+                + "link r a b from 0 till 119 every 1 takes 1");
+        Bench.good(most, "others(0, 1, 0) of the most", most.others(0, 1, 0), 120);
+        Bench.good(most, "other(0, 1, 0, 119) of the most", most.other(0, 1, 0, 119), 120);
+        Bench.refused(most, "other(0, 1, 0, 120) of the most", most.other(0, 1, 0, 120), 1);
+        Bench.good(most, "steps(0, 1) of the most", most.steps(0, 1), 120);
+        Bench.good(most, "step(0, 1, 119, 1) of the most", most.step(0, 1, 119, 1), 120);
+        Bench.good(most, "spent(0, 1, 0, 119) of the most", most.spent(0, 1, 0, 119), 120);
         Bench.refused(x, "others(1, 3, 2000)", x.others(1, 3, 2000), 2);
         Bench.refused(x, "other(1, 1, 0, 0)", x.other(1, 1, 0, 0), 1);
         Bench.refused(x, "other(1, 3, -1, -1)", x.other(1, 3, -1, -1), 2);

@@ -9,10 +9,14 @@ import java.util.Random;
  * (promises 1 to 46 together), and texts with something wrong in them (promises 3, 4, 5).
  */
 public final class RandomRunsTest {
-    private static final int RUNS = 400;
+    private static final int RUNS = 6000;
     private static final int CALLS = 200;
     private static final int TEXTS = 30000;
     private static final int MOST_SMALL = 13;
+    /** Times far from one another; near, so that many are alike; up to all that there is room for. */
+    private static final int FAR_TIMES = 0;
+    private static final int NEAR_TIMES = 1;
+    private static final int WIDE = 2;
 
     /** Calls with the sorts of their numbers: see number(). */
     private static final String[] CALLS_OF_THE_FACE = {
@@ -22,24 +26,26 @@ public final class RandomRunsTest {
         "latest s s t", "reach s t t", "farthest s t", "meets s s t", "round s s t y",
         "steps s s", "step s s i w", "quickest s s", "spent s s t t", "others s s t", "other s s t i",
         "pairs t", "hub t", "slowest t",
-        "needs s s t d", "vital s s t", "slack s s t d", "why s s t i",
+        "needs s s t r", "vital s s t", "slack s s t r", "why s s t i",
         "cancel d", "run d", "delay d v", "change s v", "hold s h", "extra l s s t v", "undo",
         "still i", "size w", "trouble",
     };
 
     private final Random random;
+    private final int sort;
     private int spots;
     private int departures;
 
-    private RandomRunsTest(long seed) {
+    private RandomRunsTest(long seed, int sort) {
         random = new Random(seed);
+        this.sort = sort;
     }
 
     public static void main(String[] args) throws ReflectiveOperationException {
         for (int run = 0; run < RUNS; run++) {
-            new RandomRunsTest(run).compareRun(run);
+            new RandomRunsTest(run, run % 10 == 9 ? WIDE : run % 2).compareRun(run);
         }
-        new RandomRunsTest(4711).compareTexts();
+        new RandomRunsTest(4711, FAR_TIMES).compareTexts();
         Bench.end("RandomRunsTest");
     }
 
@@ -51,18 +57,19 @@ public final class RandomRunsTest {
             if (i == 3 || random.nextInt(90) == 0) {
                 String text = deskText();
                 compareDesk(said, x, model, text, text.length());
-                departures = Math.max(0, model.about(4));
-                x.about(4);
+                departures = model.count();
                 continue;
             }
             String[] call = CALLS_OF_THE_FACE[random.nextInt(CALLS_OF_THE_FACE.length)].split(" ");
-            if (call[0].equals("extra") && model.about(4) >= MOST_SMALL) {
-                // The Model writes all WAYS out: more departures would keep it too long.
-                x.about(4);
-                continue;
+            if (!isTooMuch(call[0], model.count())) {
+                compareCall(said, x, model, call);
             }
-            compareCall(said, x, model, call);
         }
+    }
+
+    /** The Model writes all WAYS out: more departures, or long waits among many, would keep it too long. */
+    private boolean isTooMuch(String call, int count) {
+        return sort == WIDE ? call.equals("hold") : call.equals("extra") && count >= MOST_SMALL;
     }
 
     private void compareCall(String said, LinkTimes x, Model model, String[] call)
@@ -71,7 +78,7 @@ public final class RandomRunsTest {
         Class<?>[] types = new Class<?>[call.length - 1];
         StringBuilder told = new StringBuilder(said).append(' ').append(call[0]).append('(');
         for (int i = 0; i < numbers.length; i++) {
-            numbers[i] = number(call[i + 1]);
+            numbers[i] = call[i + 1].equals("r") ? ridden(model, numbers) : number(call[i + 1]);
             types[i] = int.class;
             told.append(i > 0 ? ", " : "").append(numbers[i]);
         }
@@ -91,19 +98,29 @@ public final class RandomRunsTest {
         }
     }
 
+    /** A departure, mostly one that the BEST WAY between the numbers ahead of it rides. */
+    private int ridden(Model model, Object[] n) {
+        int rides = model.rides((Integer) n[0], (Integer) n[1], (Integer) n[2]);
+        if (rides < 1 || random.nextInt(4) == 0) {
+            return number("d");
+        }
+        return model.ride((Integer) n[0], (Integer) n[1], (Integer) n[2], random.nextInt(rides));
+    }
+
     /** A number of a sort, mostly one that fits. */
-    private int number(String sort) {
+    private int number(String ofSort) {
         if (random.nextInt(40) == 0) {
             int[] wild = {-3, -2, -1, 0, 99, 100, 999, 1000, 1999, 2000, Integer.MAX_VALUE, Integer.MIN_VALUE};
             return wild[random.nextInt(wild.length)];
         }
-        switch (sort) {
+        switch (ofSort) {
             case "s":
                 return random.nextInt(spots + 1) - random.nextInt(30) / 29;
             case "d":
                 return random.nextInt(departures + 3) - random.nextInt(30) / 29;
             case "t":
-                return random.nextInt(10) == 0 ? random.nextInt(2002) - 1 : random.nextInt(45);
+                int[] usual = {45, 12, 1000};
+                return random.nextInt(10) == 0 ? random.nextInt(2002) - 1 : random.nextInt(usual[sort]);
             case "w":
                 return random.nextInt(10) - 1;
             case "i":
@@ -121,33 +138,61 @@ public final class RandomRunsTest {
         }
     }
 
-    /** A small desk, with times so near to one another that many of them are alike. */
     private String deskText() {
+        return sort == WIDE ? wideText() : smallText();
+    }
+
+    /** As many departures as there is room for, with waits so short that there are few WAYS. */
+    private String wideText() {
+        spots = 8 + random.nextInt(3);
+        StringBuilder text = new StringBuilder("desk span 999");
+        for (int s = 0; s < spots; s++) {
+            text.append(";spot ").append((char) ('a' + s)).append(" change ").append(random.nextInt(20));
+            text.append(" wait ").append(random.nextInt(70));
+        }
+        for (int l = 0; l < 8; l++) {
+            text.append(";line ").append((char) ('p' + l));
+        }
+        for (int k = 0; k < 12; k++) {
+            int a = random.nextInt(spots);
+            int b = (a + 1 + random.nextInt(spots - 1)) % spots;
+            text.append(";link ").append((char) ('p' + random.nextInt(8)));
+            text.append(" ").append((char) ('a' + a)).append(" ").append((char) ('a' + b));
+            text.append(" from ").append(random.nextInt(99)).append(" till ").append(980 + random.nextInt(20));
+            text.append(" every ").append(99 + random.nextInt(4)).append(" takes ").append(1 + random.nextInt(99));
+        }
+        return text.toString();
+    }
+
+    /** A desk of few departures: all WAYS can be written out. */
+    private String smallText() {
+        boolean near = sort == NEAR_TIMES;
         spots = 2 + random.nextInt(4);
         int lines = 1 + random.nextInt(3);
         StringBuilder text = new StringBuilder("desk span 40");
         for (int s = 0; s < spots; s++) {
-            text.append(";spot s").append((char) ('a' + s)).append(" change ").append(random.nextInt(4));
-            if (random.nextInt(2) == 0) {
-                text.append(" wait ").append(random.nextInt(12));
+            text.append(";spot s").append((char) ('a' + s));
+            text.append(" change ").append(random.nextInt(near ? 2 : 4));
+            if (random.nextInt(near ? 5 : 2) == 0) {
+                text.append(" wait ").append(random.nextInt(near ? 4 : 12));
             }
         }
         for (int l = 0; l < lines; l++) {
             text.append(";line l").append((char) ('a' + l));
         }
         int room = MOST_SMALL - 2;
-        int links = random.nextInt(9);
+        int links = near ? 5 + random.nextInt(7) : random.nextInt(9);
         for (int k = 0; k < links && room > 0; k++) {
             int a = random.nextInt(spots);
             int b = (a + 1 + random.nextInt(spots - 1)) % spots;
-            int from = random.nextInt(26);
-            int n = 1 + random.nextInt(Math.min(room, 3));
-            int every = 1 + random.nextInt(5);
+            int from = random.nextInt(near ? 8 : 26);
+            int n = 1 + random.nextInt(Math.min(room, near ? 2 : 3));
+            int every = 1 + random.nextInt(near ? 2 : 5);
             room -= n;
             text.append(";link l").append((char) ('a' + random.nextInt(lines)));
             text.append(" s").append((char) ('a' + a)).append(" s").append((char) ('a' + b));
             text.append(" from ").append(from).append(" till ").append(from + (n - 1) * every);
-            text.append(" every ").append(every).append(" takes ").append(1 + random.nextInt(7));
+            text.append(" every ").append(every).append(" takes ").append(1 + random.nextInt(near ? 3 : 7));
         }
         return text.toString();
     }
