@@ -20,6 +20,7 @@ public final class BestWayTest {
         withoutWay();
         refusals();
         order();
+        orderBehind();
         changeAndWait();
         tradeCalls();
         withinCall();
@@ -121,6 +122,34 @@ public final class BestWayTest {
         x.extra(0, 0, 2, 0, 20);
         way(x, 0, 2, 0, new int[] {20, 0, 0, 0}, 5);
         way(x, 0, 2, 1, new int[] {20, 1, 6, 3}, 4, 3);
+    }
+
+    /** What follows one departure is chosen by the same rules. */
+    private static void orderBehind() {
+        // From b all ARRIVE at 20: by x and y and then c, by z and then c; both ways round by numbers.
+        String head = "desk span 50;spot a change 0;spot b change 0;spot c change 0;spot x change 0;spot y change 0;"
+                + "spot z change 0;line r;line g;link r a b from 1 till 1 every 1 takes 1;";
+        String three = ";link r b x from 3 till 3 every 1 takes 1;link r x y from 5 till 5 every 1 takes 1;"
+                + "link r y c from 7 till 7 every 1 takes 13";
+        String two = ";link r b z from 4 till 4 every 1 takes 1;link r z c from 6 till 6 every 1 takes 14";
+        LinkTimes x = Bench.with(head.substring(0, head.length() - 1) + three + two);
+        way(x, 0, 2, 0, new int[] {20, 0, 1, 3}, 0, 4, 5);
+        x = Bench.with(head.substring(0, head.length() - 1) + two + three);
+        way(x, 0, 2, 0, new int[] {20, 0, 1, 3}, 0, 1, 2);
+        x.delay(3, 2);
+        way(x, 0, 2, 0, new int[] {20, 0, 1, 3}, 0, 1, 2);
+        // With a change in it the shorter one is behind the longer one.
+        x.cancel(1);
+        x.delay(3, 0);
+        x.extra(1, 1, 5, 4, 1);
+        way(x, 0, 2, 0, new int[] {20, 0, 1, 3}, 0, 3, 4, 5);
+        x.cancel(4);
+        way(x, 0, 2, 0, new int[] {20, 2, 1, 3}, 0, 6, 2);
+        // Of like ones the least number, though it LEAVES later.
+        x.run(1);
+        x.delay(1, 1);
+        x.extra(0, 1, 5, 3, 1);
+        way(x, 0, 2, 0, new int[] {20, 0, 1, 3}, 0, 1, 2);
     }
 
     private static void changeAndWait() {

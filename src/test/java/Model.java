@@ -52,6 +52,15 @@ final class Model {
         return departures.size();
     }
 
+    int firstCancelled() {
+        for (int d = 0; d < departures.size(); d++) {
+            if (departures.get(d).cancelled) {
+                return d;
+            }
+        }
+        return NONE;
+    }
+
     // ---- the desk
 
     int feed(String twenty) {

@@ -120,6 +120,18 @@ public final class QuestionsTest {
         x.extra(1, 0, 3, 2, 26);
         Bench.good(x, "steps(0, 3) with one like another", x.steps(0, 3), 2);
         Bench.good(x, "step(0, 3, 0, 2) with one like another", x.step(0, 3, 0, 2), 0);
+        x.undo();
+        // The one with fewer changes has the lesser number now: 0 and 12, both of r.
+        x.delay(0, 2);
+        x.extra(0, 1, 3, 7, 21);
+        Bench.good(x, "steps(0, 3) with 0 and 12", x.steps(0, 3), 2);
+        Bench.good(x, "step(0, 3, 0, 0) with 0 and 12", x.step(0, 3, 0, 0), 2);
+        Bench.good(x, "step(0, 3, 0, 2) with 0 and 12", x.step(0, 3, 0, 2), 0);
+        // One that LEAVES earlier is another pair: its changes don't count for this one.
+        x.delay(0, 1);
+        Bench.good(x, "steps(0, 3) with 0 sooner", x.steps(0, 3), 2);
+        Bench.good(x, "step(0, 3, 0, 0) with 0 sooner", x.step(0, 3, 0, 0), 2);
+        Bench.good(x, "step(0, 3, 0, 2) with 0 sooner", x.step(0, 3, 0, 2), 1);
         x.extra(1, 0, 3, 2, 25);
         Bench.good(x, "steps(0, 3) with a sooner one", x.steps(0, 3), 2);
         Bench.good(x, "step(0, 3, 0, 1) with a sooner one", x.step(0, 3, 0, 1), 27);

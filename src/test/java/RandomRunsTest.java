@@ -27,7 +27,7 @@ public final class RandomRunsTest {
         "steps s s", "step s s i w", "quickest s s", "spent s s t t", "others s s t", "other s s t i",
         "pairs t", "hub t", "slowest t",
         "needs s s t r", "vital s s t", "slack s s t r", "why s s t i",
-        "cancel d", "run d", "delay d v", "change s v", "hold s h", "extra l s s t v", "undo",
+        "cancel d", "run c", "delay d v", "change s v", "hold s h", "extra l s s t v", "undo",
         "still i", "size w", "trouble",
     };
 
@@ -54,7 +54,7 @@ public final class RandomRunsTest {
         Model model = new Model();
         String said = "run " + run + ":";
         for (int i = 0; i < CALLS; i++) {
-            if (i == 3 || random.nextInt(90) == 0) {
+            if (i == 3 || random.nextInt(40) == 0) {
                 String text = deskText();
                 compareDesk(said, x, model, text, text.length());
                 departures = model.count();
@@ -78,7 +78,7 @@ public final class RandomRunsTest {
         Class<?>[] types = new Class<?>[call.length - 1];
         StringBuilder told = new StringBuilder(said).append(' ').append(call[0]).append('(');
         for (int i = 0; i < numbers.length; i++) {
-            numbers[i] = call[i + 1].equals("r") ? ridden(model, numbers) : number(call[i + 1]);
+            numbers[i] = drawn(model, call[i + 1], numbers);
             types[i] = int.class;
             told.append(i > 0 ? ", " : "").append(numbers[i]);
         }
@@ -98,6 +98,18 @@ public final class RandomRunsTest {
         }
     }
 
+    private int drawn(Model model, String ofSort, Object[] ahead) {
+        switch (ofSort) {
+            case "r":
+                return ridden(model, ahead);
+            case "c":
+                int cancelled = model.firstCancelled();
+                return cancelled == Model.NONE || random.nextInt(4) == 0 ? number("d") : cancelled;
+            default:
+                return number(ofSort);
+        }
+    }
+
     /** A departure, mostly one that the BEST WAY between the numbers ahead of it rides. */
     private int ridden(Model model, Object[] n) {
         int rides = model.rides((Integer) n[0], (Integer) n[1], (Integer) n[2]);
@@ -109,32 +121,32 @@ public final class RandomRunsTest {
 
     /** A number of a sort, mostly one that fits. */
     private int number(String ofSort) {
-        if (random.nextInt(40) == 0) {
+        if (random.nextInt(80) == 0) {
             int[] wild = {-3, -2, -1, 0, 99, 100, 999, 1000, 1999, 2000, Integer.MAX_VALUE, Integer.MIN_VALUE};
             return wild[random.nextInt(wild.length)];
         }
         switch (ofSort) {
             case "s":
-                return random.nextInt(spots + 1) - random.nextInt(30) / 29;
+                return random.nextInt(40) == 0 ? spots : random.nextInt(Math.max(spots, 1));
             case "d":
-                return random.nextInt(departures + 3) - random.nextInt(30) / 29;
+                return random.nextInt(departures + 2);
             case "t":
-                int[] usual = {45, 12, 1000};
-                return random.nextInt(10) == 0 ? random.nextInt(2002) - 1 : random.nextInt(usual[sort]);
+                int[] usual = {30, 7, 900};
+                return random.nextInt(20) == 0 ? random.nextInt(2002) - 1 : random.nextInt(usual[sort]);
             case "w":
-                return random.nextInt(10) - 1;
+                return random.nextInt(3) == 0 ? random.nextInt(10) - 1 : random.nextInt(3);
             case "i":
-                return random.nextInt(5) - random.nextInt(10) / 9;
+                return random.nextInt(4) == 0 ? random.nextInt(6) - 1 : random.nextInt(2);
             case "k":
                 return random.nextInt(4) == 0 ? random.nextInt(24) - 1 : random.nextInt(3);
             case "l":
                 return random.nextInt(4);
             case "v":
-                return random.nextInt(4) == 0 ? random.nextInt(103) - 1 : random.nextInt(12);
+                return random.nextInt(8) == 0 ? random.nextInt(103) - 1 : random.nextInt(4);
             case "h":
-                return random.nextInt(4) == 0 ? random.nextInt(1003) - 2 : random.nextInt(14) - 1;
+                return random.nextInt(8) == 0 ? random.nextInt(1003) - 2 : random.nextInt(10) - 1;
             default:
-                return random.nextInt(20);
+                return random.nextInt(sort == WIDE ? 200 : 10);
         }
     }
 
