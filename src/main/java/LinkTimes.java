@@ -255,9 +255,8 @@ public final class LinkTimes {
     }
 
     public int within(int a, int b, int t, int k) {
-        int bad = lookAtPair(a, b, isTime(t) && k >= 0 && k <= MOST_TURNS_ASKED);
-        if (bad != 0) {
-            return refuse(bad);
+        if (isRefused(lookAtPair(a, b, isTime(t) && k >= 0 && k <= MOST_TURNS_ASKED))) {
+            return NONE;
         }
         int got = seekTrades(a, b, t, k);
         // The last bargain is the one that arrives first.
@@ -267,9 +266,8 @@ public final class LinkTimes {
     // ---- other questions
 
     public int latest(int a, int b, int by) {
-        int bad = lookAtPair(a, b, isTime(by));
-        if (bad != 0) {
-            return refuse(bad);
+        if (isRefused(lookAtPair(a, b, isTime(by)))) {
+            return NONE;
         }
         if (a == b) {
             return answer(by);
@@ -279,9 +277,8 @@ public final class LinkTimes {
     }
 
     public int reach(int a, int t, int by) {
-        int bad = lookAtPair(a, a, isTime(t) && isTime(by));
-        if (bad != 0) {
-            return refuse(bad);
+        if (isRefused(lookAtPair(a, a, isTime(t) && isTime(by)))) {
+            return NONE;
         }
         net.load(current);
         flood.spread(net, a, t);
@@ -295,9 +292,8 @@ public final class LinkTimes {
     }
 
     public int farthest(int a, int t) {
-        int bad = lookAtPair(a, a, isTime(t));
-        if (bad != 0) {
-            return refuse(bad);
+        if (isRefused(lookAtPair(a, a, isTime(t)))) {
+            return NONE;
         }
         net.load(current);
         flood.spread(net, a, t);
@@ -314,9 +310,8 @@ public final class LinkTimes {
     }
 
     public int meets(int a, int b, int t) {
-        int bad = lookAtPair(a, b, isTime(t));
-        if (bad != 0) {
-            return refuse(bad);
+        if (isRefused(lookAtPair(a, b, isTime(t)))) {
+            return NONE;
         }
         net.load(current);
         flood.spread(net, a, t);
@@ -334,9 +329,8 @@ public final class LinkTimes {
     }
 
     public int round(int a, int b, int t, int stay) {
-        int bad = lookAtPair(a, b, isTime(t) && stay >= 0 && stay <= MOST_STAY);
-        if (bad != 0) {
-            return refuse(bad);
+        if (isRefused(lookAtPair(a, b, isTime(t) && stay >= 0 && stay <= MOST_STAY))) {
+            return NONE;
         }
         net.load(current);
         int there = soonestAt(a, b, t);
@@ -397,9 +391,8 @@ public final class LinkTimes {
     }
 
     public int others(int a, int b, int t) {
-        int bad = lookAtUnlike(a, b, t);
-        if (bad != 0) {
-            return refuse(bad);
+        if (isRefused(lookAtUnlike(a, b, t))) {
+            return NONE;
         }
         net.load(current);
         int ways = 0;
@@ -411,9 +404,8 @@ public final class LinkTimes {
     }
 
     public int other(int a, int b, int t, int i) {
-        int bad = lookAtUnlike(a, b, t);
-        if (bad != 0) {
-            return refuse(bad);
+        if (isRefused(lookAtUnlike(a, b, t))) {
+            return NONE;
         }
         if (i < 0 || i >= MOST_DEPARTURES) {
             return refuse(NONE_SUCH);
@@ -429,9 +421,8 @@ public final class LinkTimes {
     }
 
     public int pairs(int t) {
-        int bad = lookAtDesk(t);
-        if (bad != 0) {
-            return refuse(bad);
+        if (isRefused(lookAtDesk(t))) {
+            return NONE;
         }
         net.load(current);
         int found = 0;
@@ -447,9 +438,8 @@ public final class LinkTimes {
     }
 
     public int hub(int t) {
-        int bad = lookAtDesk(t);
-        if (bad != 0) {
-            return refuse(bad);
+        if (isRefused(lookAtDesk(t))) {
+            return NONE;
         }
         net.load(current);
         search.countTurns(net, t);
@@ -465,9 +455,8 @@ public final class LinkTimes {
     }
 
     public int slowest(int t) {
-        int bad = lookAtDesk(t);
-        if (bad != 0) {
-            return refuse(bad);
+        if (isRefused(lookAtDesk(t))) {
+            return NONE;
         }
         net.load(current);
         int most = NO_WAY;
@@ -485,9 +474,8 @@ public final class LinkTimes {
     // ---- what a way hangs on
 
     public int needs(int a, int b, int t, int d) {
-        int bad = lookAtHanging(a, b, t, d);
-        if (bad != 0) {
-            return refuse(bad);
+        if (isRefused(lookAtHanging(a, b, t, d))) {
+            return NONE;
         }
         net.load(current);
         int end = soonestAt(a, b, t);
@@ -518,9 +506,8 @@ public final class LinkTimes {
     }
 
     public int slack(int a, int b, int t, int d) {
-        int bad = lookAtHanging(a, b, t, d);
-        if (bad != 0) {
-            return refuse(bad);
+        if (isRefused(lookAtHanging(a, b, t, d))) {
+            return NONE;
         }
         net.load(current);
         int end = soonestAt(a, b, t);
@@ -543,9 +530,8 @@ public final class LinkTimes {
     }
 
     public int why(int a, int b, int t, int i) {
-        int bad = lookAtPair(a, b, isTime(t) && i >= 0);
-        if (bad != 0) {
-            return refuse(bad);
+        if (isRefused(lookAtPair(a, b, isTime(t) && i >= 0))) {
+            return NONE;
         }
         return answer(i < countReasons(a, b, t) ? i + 1 : 0);
     }
@@ -691,6 +677,11 @@ public final class LinkTimes {
         return NONE;
     }
 
+    private boolean isRefused(int number) {
+        refusal = number;
+        return number != 0;
+    }
+
     private int answer(int value) {
         refusal = 0;
         return value;
@@ -735,9 +726,8 @@ public final class LinkTimes {
 
     /** FOUND with the BEST WAY in search.way; else the answer that is due instead. */
     private int seekBest(int a, int b, int t) {
-        int bad = lookAtPair(a, b, isTime(t));
-        if (bad != 0) {
-            return refuse(bad);
+        if (isRefused(lookAtPair(a, b, isTime(t)))) {
+            return NONE;
         }
         net.load(current);
         return answer(search.findBest(net, a, b, t) ? FOUND : NO_WAY);
@@ -745,9 +735,8 @@ public final class LinkTimes {
 
     /** FOUND with the pairs of up to so many changes in bargains; else the answer that is due instead. */
     private int seekTrades(int a, int b, int t, int mostTurns) {
-        int bad = lookAtPair(a, b, isTime(t));
-        if (bad != 0) {
-            return refuse(bad);
+        if (isRefused(lookAtPair(a, b, isTime(t)))) {
+            return NONE;
         }
         net.load(current);
         bargains.collect(net, a, b, t, mostTurns);
@@ -891,6 +880,9 @@ public final class LinkTimes {
         private Desk desk;
         private final int[] spotNames = new int[MOST_SPOTS];
         private final int[] lineNames = new int[MOST_LINES];
+        private int linkLine;
+        private int linkFrom;
+        private int linkTo;
         private int kind;
         private int start;
         private int stop;
@@ -941,7 +933,7 @@ public final class LinkTimes {
                 return hasRoom(desk.lineCount, MOST_LINES) && readName();
             }
             if (isWord("link")) {
-                return hasRoom(desk.linkCount, MOST_LINKS) && readLink();
+                return hasRoom(desk.linkCount, MOST_LINKS) && readEnds() && readTimes();
             }
             return fail(FORM);
         }
@@ -995,23 +987,25 @@ public final class LinkTimes {
             return true;
         }
 
-        private boolean readLink() {
-            int line = expectTold(lineNames, desk.lineCount);
-            if (line == NONE) {
+        /** Of a link its LINE and its two SPOTS. */
+        private boolean readEnds() {
+            linkLine = expectTold(lineNames, desk.lineCount);
+            if (linkLine == NONE) {
                 return false;
             }
-            int a = expectTold(spotNames, desk.spotCount);
-            if (a == NONE) {
+            linkFrom = expectTold(spotNames, desk.spotCount);
+            if (linkFrom == NONE) {
                 return false;
             }
-            int b = expectTold(spotNames, desk.spotCount);
-            if (b == NONE) {
+            linkTo = expectTold(spotNames, desk.spotCount);
+            if (linkTo == NONE) {
                 return false;
             }
-            return a == b ? fail(AGAIN) : readTimes(line, a, b);
+            return linkTo != linkFrom || fail(AGAIN);
         }
 
-        private boolean readTimes(int line, int a, int b) {
+        /** Of a link what stands behind its ends. */
+        private boolean readTimes() {
             if (!expectWord("from") || !expectWhole(0, desk.span)) {
                 return false;
             }
@@ -1031,7 +1025,7 @@ public final class LinkTimes {
                 return false;
             }
             for (int time = from; time <= till; time += every) {
-                desk.addDeparture(line, a, b, time, value, desk.linkCount);
+                desk.addDeparture(linkLine, linkFrom, linkTo, time, value, desk.linkCount);
             }
             desk.linkCount++;
             advance();

@@ -277,9 +277,11 @@ public final class TextTest {
         Bench.due("spot(1, 1)", x.spot(1, 1), 999);
         Bench.due("departure(0, 0)", x.departure(0, 0), 3);
         Bench.due("departure(0, 4)", x.departure(0, 4), 99);
-        x = Bench.with("desk span 9;spot az change 1;spot za change 2;line z;link z za az from 1 till 1 every 1 takes 1");
+        x = Bench.with("desk span 9;spot az change 1;spot za change 2;line z;"
+                + "link z za az from 1 till 1 every 1 takes 1");
         Bench.due("departure(0, 1) of za", x.departure(0, 1), 1);
-        x = Bench.with("desk span 999;line r;spot a change 1;line g;spot b change 1;link g b a from 999 till 999 every 1 takes 1");
+        x = Bench.with("desk span 999;line r;spot a change 1;line g;spot b change 1;"
+                + "link g b a from 999 till 999 every 1 takes 1");
         Bench.due("departure(0, 1)", x.departure(0, 1), 1);
         Bench.due("departure(0, 2)", x.departure(0, 2), 0);
         Bench.due("departure(0, 3)", x.departure(0, 3), 999);
