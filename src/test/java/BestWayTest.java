@@ -196,6 +196,13 @@ public final class BestWayTest {
         x.delay(1, 0);
         x.extra(0, 0, 2, 8, 27);
         Bench.good(x, "trade(0, 2, 0, 0, 2): the latest of that pair", x.trade(0, 2, 0, 0, 2), 8);
+        // Each departure gets to c without a change; one change is sooner all the same.
+        x = Bench.with("desk span 50;spot a change 1;spot b change 1;spot c change 1;line r;line g;"
+                + "link r a b from 5 till 5 every 1 takes 5;link r b c from 12 till 12 every 1 takes 18;"
+                + "link g b c from 12 till 12 every 1 takes 8");
+        Bench.good(x, "trades(0, 2, 0) of one line and of two", x.trades(0, 2, 0), 2);
+        Bench.good(x, "trade(0, 2, 0, 0, 0) of one line", x.trade(0, 2, 0, 0, 0), 30);
+        Bench.good(x, "trade(0, 2, 0, 1, 0) of two lines", x.trade(0, 2, 0, 1, 0), 20);
     }
 
     private static void withinCall() {
