@@ -5,8 +5,14 @@ import java.util.NoSuchElementException;
 final class Bench {
     private static int checks = 0;
     private static int wrong = 0;
+    private static String subject = "";
 
     private Bench() {
+    }
+
+    /** What the answers that follow are about, told with each that is wrong. */
+    static void subject(String words) {
+        subject = words.isEmpty() ? "" : words + ": ";
     }
 
     /** Puts a text on the tape, filled up with blanks to the next twenty bytes. */
@@ -45,7 +51,7 @@ final class Bench {
         checks++;
         if (got != want) {
             wrong++;
-            System.out.println(call + " answered " + got + ", due is " + want);
+            System.out.println(subject + call + " answered " + got + ", due is " + want);
         }
     }
 
