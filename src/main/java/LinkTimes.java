@@ -519,11 +519,12 @@ public final class LinkTimes {
             // Another way arrives as soon, whenever this departure leaves.
             return answer(MOST_DELAY);
         }
-        net.setRuns(d, true);
-        for (int later = 1; later <= MOST_DELAY; later++) {
+        // All ways that arrive by then ride it once; what they ride ahead of it and behind it leaves as before.
+        search.aim(net, b);
+        for (int later = 0; later < MOST_DELAY; later++) {
             net.putOff(d);
-            if (soonestAt(a, b, t) > end) {
-                return answer(later - 1);
+            if (!flood.canRide(net, d, a, t) || !search.getsThere(net, d, b, end)) {
+                return answer(later);
             }
         }
         return answer(MOST_DELAY);
@@ -1266,12 +1267,10 @@ public final class LinkTimes {
             }
         }
 
-        /** As if a departure left a tick later. */
+        /** As if a departure left a tick later; where it stands in the rows stays as it was. */
         void putOff(int d) {
             leave[d]++;
             arrive[d]++;
-            sort();
-            group();
         }
 
         /** Whether one can ride e behind d; e is one of those that leave where d arrives. */
@@ -1433,6 +1432,21 @@ public final class LinkTimes {
             }
         }
 
+        /** Whether one who rides d gets to the spot aimed at, b, by a time. */
+        boolean getsThere(Net net, int d, int b, int by) {
+            int s = net.desk.to[d];
+            if (s == b) {
+                return net.arrive[d] <= by;
+            }
+            for (int p = net.first[s]; p < net.first[s + 1]; p++) {
+                int e = net.bySpot[p];
+                if (end[e] <= by && net.joins(d, e)) {
+                    return true;
+                }
+            }
+            return false;
+        }
+
         private void offer(int d, int e, int itsTurns) {
             if (isBetter(e, itsTurns, d)) {
                 end[d] = end[e];
@@ -1521,6 +1535,20 @@ public final class LinkTimes {
             }
             // One is at the first spot from the beginning, whenever a way comes back there.
             soonest[a] = t;
+        }
+
+        /** Whether one who set out from a at t can ride d, by what was caught when it didn't run. */
+        boolean canRide(Net net, int d, int a, int t) {
+            int s = net.desk.from[d];
+            if (s == a && net.leave[d] >= t) {
+                return true;
+            }
+            for (int e = 0; e < net.count; e++) {
+                if (caught[e] && net.runs[e] && net.desk.to[e] == s && net.joins(e, d)) {
+                    return true;
+                }
+            }
+            return false;
         }
 
         private void rideOn(Net net, int d) {

@@ -1,7 +1,4 @@
-import java.lang.reflect.InvocationTargetException;
-import java.lang.reflect.Method;
 import java.nio.charset.StandardCharsets;
-import java.util.NoSuchElementException;
 import java.util.Random;
 
 /**
@@ -50,19 +47,17 @@ public final class RandomRunsTest {
     }
 
     private void compareRun(int run) throws ReflectiveOperationException {
-        LinkTimes x = new LinkTimes();
-        Model model = new Model();
-        String said = "run " + run + ":";
+        Twins twins = new Twins("run " + run);
         for (int i = 0; i < CALLS; i++) {
             if (i == 3 || random.nextInt(40) == 0) {
                 String text = deskText();
-                compareDesk(said, x, model, text, text.length());
-                departures = model.count();
+                twins.desk(text, text.length());
+                departures = twins.model.count();
                 continue;
             }
             String[] call = CALLS_OF_THE_FACE[random.nextInt(CALLS_OF_THE_FACE.length)].split(" ");
-            if (!isTooMuch(call[0], model.count())) {
-                compareCall(said, x, model, call);
+            if (!isTooMuch(call[0], twins.model.count())) {
+                compareCall(twins, call);
             }
         }
     }
@@ -72,33 +67,15 @@ public final class RandomRunsTest {
         return sort == WIDE ? call.equals("hold") : call.equals("extra") && count >= MOST_SMALL;
     }
 
-    private void compareCall(String said, LinkTimes x, Model model, String[] call)
-            throws ReflectiveOperationException {
-        Object[] numbers = new Object[call.length - 1];
-        Class<?>[] types = new Class<?>[call.length - 1];
-        StringBuilder told = new StringBuilder(said).append(' ').append(call[0]).append('(');
+    private void compareCall(Twins twins, String[] call) throws ReflectiveOperationException {
+        int[] numbers = new int[call.length - 1];
         for (int i = 0; i < numbers.length; i++) {
-            numbers[i] = drawn(model, call[i + 1], numbers);
-            types[i] = int.class;
-            told.append(i > 0 ? ", " : "").append(numbers[i]);
+            numbers[i] = drawn(twins.model, call[i + 1], numbers);
         }
-        told.append(')');
-        long want = ask(Model.class.getDeclaredMethod(call[0], types), model, numbers);
-        long got = ask(LinkTimes.class.getMethod(call[0], types), x, numbers);
-        Bench.due(told.toString(), got, want);
-        Bench.due("trouble() behind " + told, x.trouble(), model.trouble());
+        twins.ask(call[0], numbers);
     }
 
-    private static long ask(Method method, Object object, Object[] numbers) throws ReflectiveOperationException {
-        try {
-            Object answer = method.invoke(object, numbers);
-            return answer instanceof Boolean ? ((Boolean) answer ? 1 : 0) : (Integer) answer;
-        } catch (InvocationTargetException thrown) {
-            return thrown.getCause() instanceof NoSuchElementException ? 777777 : 888888;
-        }
-    }
-
-    private int drawn(Model model, String ofSort, Object[] ahead) {
+    private int drawn(Model model, String ofSort, int[] ahead) {
         switch (ofSort) {
             case "r":
                 return ridden(model, ahead);
@@ -111,12 +88,12 @@ public final class RandomRunsTest {
     }
 
     /** A departure, mostly one that the BEST WAY between the numbers ahead of it rides. */
-    private int ridden(Model model, Object[] n) {
-        int rides = model.rides((Integer) n[0], (Integer) n[1], (Integer) n[2]);
+    private int ridden(Model model, int[] n) {
+        int rides = model.rides(n[0], n[1], n[2]);
         if (rides < 1 || random.nextInt(4) == 0) {
             return number("d");
         }
-        return model.ride((Integer) n[0], (Integer) n[1], (Integer) n[2], random.nextInt(rides));
+        return model.ride(n[0], n[1], n[2], random.nextInt(rides));
     }
 
     /** A number of a sort, mostly one that fits. */
@@ -209,28 +186,12 @@ public final class RandomRunsTest {
         return text.toString();
     }
 
-    private static void compareDesk(String said, LinkTimes x, Model model, String text, int n) {
-        String call = said + " desk of '" + text + "'";
-        Bench.put(x, text);
-        for (int at = 0; at < text.length(); at += 20) {
-            String twenty = text.substring(at, Math.min(at + 20, text.length()));
-            model.feed(twenty + " ".repeat(20 - twenty.length()));
-        }
-        Bench.due("size(0) ahead of " + call, x.size(0), model.size(0));
-        Bench.due(call, x.desk(n), model.desk(n));
-        Bench.due("trouble() behind " + call, x.trouble(), model.trouble());
-        Bench.due("fault() behind " + call, x.fault(), model.fault());
-        Bench.due("where() behind " + call, x.where(), model.where());
-    }
-
     /** Texts with one or two places changed: a byte, a token, a part that is gone or comes twice. */
-    private void compareTexts() {
-        LinkTimes x = new LinkTimes();
-        Model model = new Model();
+    private void compareTexts() throws ReflectiveOperationException {
+        Twins twins = new Twins("texts");
         for (int i = 0; i < TEXTS; i++) {
             if (i % 100 == 0) {
-                x = new LinkTimes();
-                model = new Model();
+                twins = new Twins("texts from " + i);
             }
             String text = random.nextInt(3) == 0 ? fullText() : deskText();
             for (int k = random.nextInt(3); k >= 0; k--) {
@@ -238,9 +199,9 @@ public final class RandomRunsTest {
             }
             byte[] bytes = text.getBytes(StandardCharsets.ISO_8859_1);
             text = new String(bytes, 0, Math.min(bytes.length, 890), StandardCharsets.ISO_8859_1);
-            compareDesk("text " + i + ":", x, model, text, text.length());
+            twins.desk(text, text.length());
             for (int what = 0; what <= 5; what++) {
-                Bench.due("about(" + what + ") behind text " + i, x.about(what), model.about(what));
+                twins.ask("about", what);
             }
         }
     }
