@@ -31,6 +31,7 @@ public final class EdgesOfActsTest {
         promise42Numbers();
         promise42Full();
         promise43();
+        promise43OneAlone();
         promise43Nothing();
         promise44();
         promise44None();
@@ -294,6 +295,29 @@ public final class EdgesOfActsTest {
         }
     }
 
+    private static void promise43OneAlone() {
+        Edges.of(43, "UNDO:");
+        // Each thing has the number 2 here: undoing one leaves the others of that number alone.
+        LinkTimes x = Edges.desk();
+        x.delay(2, 40);
+        x.change(2, 41);
+        x.hold(2, 42);
+        x.cancel(2);
+        x.run(2);
+        x.run(2);
+        Bench.due("trouble() ahead of it", x.trouble(), 5);
+        int[][] due = {{40, 41, 42, 0}, {40, 41, 42, 1}, {40, 41, -2, 1}, {40, 0, -2, 1}, {0, 0, -2, 1}};
+        for (int[] then : due) {
+            x.run(7);
+            Bench.due("undo()", x.undo(), true);
+            Bench.due("trouble() behind undo()", x.trouble(), 0);
+            Bench.due("departure(2, 5)", x.departure(2, 5), then[0]);
+            Bench.due("spot(2, 0)", x.spot(2, 0), then[1]);
+            Bench.due("spot(2, 1)", x.spot(2, 1), then[2]);
+            Bench.due("departure(2, 6)", x.departure(2, 6), then[3]);
+        }
+    }
+
     private static void promise43Nothing() {
         Edges.of(43, "false: 1 (there is nothing).");
         LinkTimes x = new LinkTimes();
@@ -380,6 +404,10 @@ public final class EdgesOfActsTest {
         Bench.due("size(2) behind undo()", x.size(2), 8);
         x.cancel(1);
         Bench.due("size(2): a cancelled one has it still", x.size(2), 8);
+        // What an earlier desk had doesn't count, wherever it stood.
+        Bench.tell(x, "desk span 9;spot a change 0");
+        Bench.tell(x, "desk span 9;spot a change 0;spot b change 0;line r;link r a b from 0 till 2 every 1 takes 1");
+        Bench.due("size(2) of a smaller desk", x.size(2), 0);
     }
 
     private static void promise45Others() {

@@ -140,6 +140,23 @@ public final class EdgesOfDeskTest {
         Bench.due("about(1)", x.about(1), 1);
         Bench.refused(x, "departure(0, 0)", x.departure(0, 0), 1);
         Bench.refused(x, "spot(1, 0)", x.spot(1, 0), 1);
+        // Nothing of an earlier one comes back with a later one.
+        for (int k = 0; k < 3; k++) {
+            Bench.good(x, "desk() of the first text", Bench.tell(x, Edges.DESK), Edges.DEPARTURES);
+            Bench.due("about(2)", x.about(2), 2);
+            Bench.due("about(3)", x.about(3), 4);
+            Bench.due("about(5)", x.about(5), Edges.DEPARTURES);
+            Bench.due("size(2)", x.size(2), 0);
+            Bench.due("arrives(a, d, 0)", x.arrives(Edges.A, Edges.D, 0), 100);
+            for (int d = 0; d < Edges.DEPARTURES; d++) {
+                x.delay(d, 99);
+                x.cancel(d);
+            }
+        }
+        Bench.good(x, "desk() of one line less", Bench.tell(x, SMALL + ";line r"), 0);
+        Bench.due("about(2) of one line", x.about(2), 1);
+        Bench.due("about(3) of no link", x.about(3), 0);
+        Bench.due("size(2) of no departure", x.size(2), 0);
     }
 
     private static void promise3HowMany() {
@@ -393,6 +410,9 @@ public final class EdgesOfDeskTest {
         ordered(x, 8, 1, 4, 2, 6, 5, 3);
         x.run(0);
         ordered(x, 8, 0, 1, 4, 2, 6, 5, 3);
+        x.undo();
+        x.undo();
+        ordered(x, 1, 4, 2, 6, 5, 3);
     }
 
     private static void promise9LikeOnes() {

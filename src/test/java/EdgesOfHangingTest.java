@@ -7,6 +7,8 @@ public final class EdgesOfHangingTest {
     private static final int C = Edges.C;
     private static final int D = Edges.D;
     private static final int E = Edges.E;
+    private static final int R_LINE = 0;
+    private static final int G_LINE = 1;
 
     public static void main(String[] args) throws IOException {
         promise33();
@@ -167,6 +169,31 @@ public final class EdgesOfHangingTest {
         x.extra(0, 0, 1, 30, 5);
         Bench.good(x, "slack(b, a, 0, 3): till 49 at c", x.slack(1, 0, 0, 3), 9);
         Bench.good(x, "slack(a, c, 11, 5)", x.slack(0, 2, 11, 5), -2);
+        aheadOfIt();
+    }
+
+    /** One that leaves later may be waited for too long, or be met by another one instead. */
+    private static void aheadOfIt() {
+        // 0 a-b 10..15, WAIT 3 at b; 1 b-c 16..20; 2 c-d 50..55.
+        LinkTimes x = Bench.with("desk span 60;spot a change 0;spot b change 0 wait 3;spot c change 0;spot d change 0;"
+                + "line r;line g;link r a b from 10 till 10 every 1 takes 5;link r b c from 16 till 16 every 1 takes 4;"
+                + "link r c d from 50 till 50 every 1 takes 5");
+        Bench.good(x, "slack(a, d, 0, 1): WAIT ahead of it", x.slack(0, 3, 0, 1), 2);
+        Bench.good(x, "slack(b, d, 0, 1): no WAIT at the first SPOT", x.slack(1, 3, 0, 1), 30);
+        Bench.good(x, "slack(b, d, 16, 1)", x.slack(1, 3, 16, 1), 30);
+        x.extra(R_LINE, 0, 1, 17, 2);
+        Bench.good(x, "slack(a, d, 0, 1): 3 ARRIVES at 19, just in time", x.slack(0, 3, 0, 1), 6);
+        x.delay(3, 1);
+        Bench.good(x, "slack(a, d, 0, 1): 3 ARRIVES at 20, a TICK too late", x.slack(0, 3, 0, 1), 2);
+        x.delay(3, 0);
+        x.cancel(3);
+        Bench.good(x, "slack(a, d, 0, 1): 3 doesn't RUN", x.slack(0, 3, 0, 1), 2);
+        x.extra(G_LINE, 0, 1, 17, 2);
+        Bench.good(x, "slack(a, d, 0, 1): by a CHANGE of 0", x.slack(0, 3, 0, 1), 6);
+        x.change(1, 1);
+        Bench.good(x, "slack(a, d, 0, 1): a CHANGE of 1, 18 is too early and 19 lost", x.slack(0, 3, 0, 1), 2);
+        x.hold(1, -1);
+        Bench.good(x, "slack(a, d, 0, 1): any WAIT", x.slack(0, 3, 0, 1), 30);
     }
 
     private static void promise35None() {
@@ -223,6 +250,17 @@ public final class EdgesOfHangingTest {
         reasons(x, A, D, 31, 0);
         x.hold(B, 4);
         reasons(x, A, D, 31, 2);
+        // At the first spot of all, where one is just a TICK too early to change, or waits one too long.
+        LinkTimes y = Bench.with("desk span 60;spot a change 1;spot b change 0;spot c change 0;line r;line g;"
+                + "link r b a from 1 till 1 every 1 takes 4;link g a c from 5 till 5 every 1 takes 4");
+        reasons(y, 1, 2, 0, 2);
+        y.change(0, 0);
+        reasons(y, 1, 2, 0, 0);
+        y = Bench.with("desk span 60;spot a change 0 wait 0;spot b change 0;spot c change 0;line r;line g;"
+                + "link r b a from 1 till 1 every 1 takes 4;link g a c from 6 till 6 every 1 takes 4");
+        reasons(y, 1, 2, 0, 2);
+        y.hold(0, 1);
+        reasons(y, 1, 2, 0, 0);
         // CHANGE 0 and WAIT any at once, at different spots.
         x.hold(B, 20);
         x.change(B, 6);
@@ -264,6 +302,12 @@ public final class EdgesOfHangingTest {
         y.extra(0, 1, 2, 10, 1);
         reasons(y, 0, 2, 0, 0);
         reasons(y, 0, 2, 6, 3);
+        // READY at 0 one has the first one of all, READY at 1 not.
+        LinkTimes first = Bench.with("desk span 50;spot a change 0;spot b change 0;line r;"
+                + "link r a b from 0 till 0 every 1 takes 5");
+        reasons(first, 0, 1, 0, 0);
+        reasons(first, 0, 1, 1, 3);
+        reasons(first, 1, 0, 0, 4);
     }
 
     private static void promise36Behind() {

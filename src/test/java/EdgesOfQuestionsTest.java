@@ -140,6 +140,12 @@ public final class EdgesOfQuestionsTest {
         Bench.good(x, "farthest(a, 0) without 7: c by the BEST WAY, at 30, not at 100", x.farthest(A, 0), C);
         x.extra(0, A, E, 0, 31);
         Bench.good(x, "farthest(a, 0) with e at 31", x.farthest(A, 0), E);
+        x.extra(0, D, A, 0, 1);
+        Bench.good(x, "farthest(d, 0): a at 1, b at 20, c at 30", x.farthest(D, 0), C);
+        x.cancel(0);
+        x.cancel(1);
+        x.cancel(2);
+        Bench.good(x, "farthest(d, 0): the first spot of all", x.farthest(D, 0), A);
     }
 
     private static void promise21Several() {
@@ -166,6 +172,7 @@ public final class EdgesOfQuestionsTest {
         Bench.good(x, "meets(b, a, 0)", x.meets(B, A, 0), B);
         Bench.good(x, "meets(a, d, 0)", x.meets(A, D, 0), D);
         Bench.good(x, "meets(e, e, 1999)", x.meets(E, E, 1999), E);
+        Bench.good(x, "meets(a, a, 7)", x.meets(A, A, 7), A);
         x.extra(0, A, E, 0, 19);
         x.extra(0, B, E, 0, 18);
         Bench.good(x, "meets(a, b, 0): e at 19 and 18, b at 20", x.meets(A, B, 0), E);
@@ -287,6 +294,19 @@ public final class EdgesOfQuestionsTest {
         x.undo();
         x.extra(0, A, C, 9, 21);
         Bench.good(x, "step(a, c, 0, 2) with one a tick earlier", x.step(A, C, 0, 2), 1);
+        // The fewest, whichever of the two has the lesser number.
+        LinkTimes y = Bench.with("desk span 99;spot a change 0;spot b change 0;spot c change 0;line r;line g");
+        y.extra(0, 0, 2, 10, 20);
+        y.extra(0, 0, 1, 10, 10);
+        y.extra(1, 1, 2, 20, 10);
+        Bench.good(y, "steps(a, c): none by 0, one by 1 and 2", y.steps(0, 2), 1);
+        Bench.good(y, "step(a, c, 0, 2): none by 0, one by 1 and 2", y.step(0, 2, 0, 2), 0);
+        // Of one LEAVES the sooner one counts alone, with its own CHANGES.
+        y.delay(0, 0);
+        y.extra(0, 0, 2, 10, 21);
+        y.cancel(0);
+        Bench.good(y, "step(a, c, 0, 1) of 30 by one, 31 by none", y.step(0, 2, 0, 1), 30);
+        Bench.good(y, "step(a, c, 0, 2) of 30 by one, 31 by none", y.step(0, 2, 0, 2), 1);
     }
 
     private static void promise25Refused() {
@@ -481,6 +501,13 @@ public final class EdgesOfQuestionsTest {
         // s-n once, s-z twice and n-z once at m; three WAYS once each at y.
         Bench.good(y, "hub(0): one WAY changes there twice", y.hub(0), 6);
         Bench.good(y, "hub(1)", y.hub(1), 0);
+        Bench.good(y, "hub(46): the one who asked ahead of it counts no more", y.hub(46), -2);
+        // Just one WAY, with just one CHANGE, to the first spot of all.
+        LinkTimes z = Bench.with("desk span 99;spot a change 0;spot b change 0;spot c change 0;line r;line g");
+        z.extra(0, 2, 1, 10, 10);
+        z.extra(1, 1, 0, 20, 10);
+        Bench.good(z, "hub(0) of one CHANGE", z.hub(0), 1);
+        Bench.good(z, "slowest(0) to the first spot", z.slowest(0), 30);
     }
 
     private static void promise31Several() {

@@ -283,6 +283,13 @@ public final class EdgesOfTermsTest {
         x.extra(R, N, Z, 30, 30);
         x.extra(R, M, Z, 20, 40);
         best(x, "behind a DEPARTURE of both", 0, 3);
+        x.delay(1, 1);
+        x.delay(2, 1);
+        x.delay(3, 1);
+        best(x, "behind a DEPARTURE of both, all later", 0, 3);
+        x.undo();
+        x.delay(2, 0);
+        best(x, "the longer one LEAVES there later", 0, 3);
     }
 
     private static void bestNumbers() {
@@ -396,6 +403,39 @@ public final class EdgesOfTermsTest {
         Bench.due("departure(0, 5): ten are undone", x.departure(0, 5), 1);
         Bench.due("undo() of the eleventh", x.undo(), false);
         Bench.due("departure(0, 5): the eleventh stays", x.departure(0, 5), 1);
+        tenOfAllSorts();
+    }
+
+    /** The oldest are forgotten whatever they are, and those behind them stay what they are. */
+    private static void tenOfAllSorts() {
+        LinkTimes x = Edges.desk();
+        x.cancel(3);
+        x.change(3, 30);
+        x.hold(3, 31);
+        x.delay(3, 32);
+        x.run(3);
+        for (int k = 0; k < 2; k++) {
+            x.extra(R, Edges.D, Edges.A, 0, 1);
+            x.cancel(8 + k);
+            x.delay(8 + k, 33);
+            x.change(4, 34 + k);
+        }
+        int[][] due = {{10, 8, 34}, {10, 8, 34}, {10, 9, 34}, {9, 8, 34}, {9, 8, 9}};
+        for (int[] then : due) {
+            Bench.due("undo()", x.undo(), true);
+            Bench.due("about(4)", x.about(4), then[0]);
+            Bench.due("about(5)", x.about(5), then[1]);
+            Bench.due("spot(4, 0)", x.spot(4, 0), then[2]);
+        }
+        for (int k = 0; k < 5; k++) {
+            Bench.due("undo()", x.undo(), true);
+        }
+        Bench.due("undo() of the eleventh", x.undo(), false);
+        Bench.due("about(4) at last", x.about(4), 8);
+        Bench.due("departure(3, 6) at last", x.departure(3, 6), 0);
+        Bench.due("departure(3, 5) at last", x.departure(3, 5), 0);
+        Bench.due("spot(3, 0) at last", x.spot(3, 0), 30);
+        Bench.due("spot(3, 1) at last", x.spot(3, 1), 31);
     }
 
     private static void latestCall() {

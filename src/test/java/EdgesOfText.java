@@ -328,6 +328,10 @@ final class EdgesOfText {
         Edges.fault(1, "desk span 60;^\u0000spot a change 1");
         Edges.fault(1, HEAD + "spot a change 1^#");
         Edges.fault(1, HEAD + "spot a change 1  ^\u00a0");
+        // Where a NAME is due, it is no NAME that isn't told.
+        Edges.fault(1, HEAD + "line ^#");
+        Edges.fault(1, TWO + "link ^#");
+        Edges.fault(1, TWO + "link r a ^#");
         Edges.fault(1, "^##");
     }
 
@@ -348,6 +352,14 @@ final class EdgesOfText {
                 String other = Character.isDigit(sign) ? ";" : " 5";
                 int skip = Character.isDigit(sign) ? 0 : 1;
                 Bench.faulty(good.substring(0, at) + other + " " + good.substring(stop), 1, at + skip);
+            }
+        }
+        // A word that differs by one letter is another one, whichever letter it is.
+        for (String word : "desk span spot change wait line link from till every takes".split(" ")) {
+            int at = good.indexOf(word);
+            for (int k = 0; k < word.length(); k++) {
+                char other = word.charAt(k) == 'x' ? 'y' : 'x';
+                Bench.faulty(good.substring(0, at + k) + other + good.substring(at + k + 1), 1, at);
             }
         }
         Edges.fault(1, good + " ^2");
@@ -395,6 +407,7 @@ final class EdgesOfText {
         Edges.fault(3, "desk span 60;^desk");
         Edges.fault(3, "desk span 60; ^desk span 60;spot a change 1");
         Edges.fault(3, TWO + "^desk span 0");
+        Edges.fault(3, "desk span 1;^desk span 1");
     }
 
     private static void bounds() {

@@ -91,6 +91,7 @@ public final class EdgesOfWaysTest {
         Bench.good(x, "changes(a, c, 0)", x.changes(A, C, 0), 1);
         Bench.good(x, "changes(a, d, 0): going on by the same LINE is none", x.changes(A, D, 0), 1);
         Bench.good(x, "changes(b, d, 0)", x.changes(B, D, 0), 0);
+        Bench.good(x, "changes(a, c, 50)", x.changes(A, C, 50), 1);
         Bench.good(x, "changes(e, e, 0)", x.changes(E, E, 0), 0);
         Bench.good(x, "changes(a, c, 51)", x.changes(A, C, 51), -2);
         LinkTimes many = Bench.with(TWENTY_ONE);
