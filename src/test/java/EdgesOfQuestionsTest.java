@@ -394,6 +394,9 @@ public final class EdgesOfQuestionsTest {
         Bench.good(x, "others(a, d, 0): all need 7", x.others(A, D, 0), 1);
         Bench.good(x, "others(d, a, 0)", x.others(D, A, 0), 0);
         Bench.good(x, "about(5): all of them RUN", x.about(5), Edges.DEPARTURES);
+        // Only what a WAY ahead rides is out: the WAY of another question doesn't count.
+        Bench.good(x, "rides(a, d, 0): 2, 5 and 7", x.rides(A, D, 0), 3);
+        Bench.good(x, "others(b, c, 0): 3, 4, 5 and 6", x.others(B, C, 0), 4);
         LinkTimes most = Bench.with(MOST);
         Bench.good(most, "others(a, b, 0) of the most", most.others(0, 1, 0), 120);
     }

@@ -283,13 +283,12 @@ public final class EdgesOfTermsTest {
         x.extra(R, N, Z, 30, 30);
         x.extra(R, M, Z, 20, 40);
         best(x, "behind a DEPARTURE of both", 0, 3);
-        x.delay(1, 1);
-        x.delay(2, 1);
-        x.delay(3, 1);
-        best(x, "behind a DEPARTURE of both, all later", 0, 3);
-        x.undo();
-        x.delay(2, 0);
-        best(x, "the longer one LEAVES there later", 0, 3);
+        x = bare();
+        x.extra(R, S, M, 10, 10);
+        x.extra(R, M, Z, 20, 40);
+        x.extra(R, M, N, 21, 9);
+        x.extra(R, N, Z, 30, 30);
+        best(x, "behind a DEPARTURE of both, where the longer one LEAVES later", 0, 1);
     }
 
     private static void bestNumbers() {

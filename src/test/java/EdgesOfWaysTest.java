@@ -257,6 +257,12 @@ public final class EdgesOfWaysTest {
             Bench.good(x, "trade(a, c, 0, " + i + ", 1)", x.trade(A, C, 0, i, 1), told[i][1]);
         }
         Bench.good(x, "trade(a, c, 51, 0, 0) without a WAY", x.trade(A, C, 51, 0, 0), -2);
+        // Asked again, it is the same: e-a, then 0, then 3 and 7.
+        x.extra(1, E, A, 0, 5);
+        for (int k = 0; k < 3; k++) {
+            Bench.good(x, "trade(e, d, 0, 0, 0)", x.trade(E, D, 0, 0, 0), 100);
+            Bench.good(x, "trade(e, d, 0, 0, 1)", x.trade(E, D, 0, 0, 1), 2);
+        }
     }
 
     private static void promise17Latest() {

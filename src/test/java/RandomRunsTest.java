@@ -6,8 +6,8 @@ import java.util.Random;
  * (promises 1 to 46 together), and texts with something wrong in them (promises 3, 4, 5).
  */
 public final class RandomRunsTest {
-    private static final int RUNS = 6000;
-    private static final int CALLS = 200;
+    private static final int RUNS = 8500;
+    private static final int CALLS = 140;
     private static final int TEXTS = 30000;
     private static final int MOST_SMALL = 13;
     /** Times far from one another; near, so that many are alike; up to all that there is room for. */
@@ -190,7 +190,7 @@ public final class RandomRunsTest {
     private void compareTexts() throws ReflectiveOperationException {
         Twins twins = new Twins("texts");
         for (int i = 0; i < TEXTS; i++) {
-            if (i % 100 == 0) {
+            if (i % 8 == 0) {
                 twins = new Twins("texts from " + i);
             }
             String text = random.nextInt(3) == 0 ? fullText() : deskText();

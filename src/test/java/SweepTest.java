@@ -5,6 +5,20 @@
 public final class SweepTest {
     private static final int MIN = Integer.MIN_VALUE;
     private static final int MAX = Integer.MAX_VALUE;
+    /** An object is used for at most 512 calls; each row takes up to seven of both sorts, beside the feeding. */
+    private static final int ROWS_OF_ONE = 50;
+
+    private interface Maker {
+        Twins make() throws ReflectiveOperationException;
+    }
+
+    private final Maker maker;
+    private Twins twins;
+    private int rows = ROWS_OF_ONE;
+
+    private SweepTest(Maker maker) {
+        this.maker = maker;
+    }
 
     /** Questions with the sorts of their numbers: see numbers(). */
     private static final String[] QUESTIONS = {
@@ -21,11 +35,11 @@ public final class SweepTest {
     };
 
     public static void main(String[] args) throws ReflectiveOperationException {
-        sweep(new Twins("no desk"));
-        sweep(told("a fault alone", "desk span 9;spot a change 0;", 0));
-        sweep(told("the least desk", "desk span 1;spot a change 0", 0));
-        sweep(told("as told", Edges.DESK, Edges.DEPARTURES));
-        sweep(acted());
+        new SweepTest(() -> new Twins("no desk")).sweep();
+        new SweepTest(() -> told("a fault alone", "desk span 9;spot a change 0;", 0)).sweep();
+        new SweepTest(() -> told("the least desk", "desk span 1;spot a change 0", 0)).sweep();
+        new SweepTest(() -> told("as told", Edges.DESK, Edges.DEPARTURES)).sweep();
+        new SweepTest(SweepTest::acted).sweep();
         Bench.end("SweepTest");
     }
 
@@ -52,34 +66,43 @@ public final class SweepTest {
         return twins;
     }
 
-    private static void sweep(Twins twins) throws ReflectiveOperationException {
+    private void sweep() throws ReflectiveOperationException {
         for (String question : QUESTIONS) {
             String[] call = question.split(" ");
-            askAll(twins, call, new int[call.length - 1], 0, false);
+            askAll(call, new int[call.length - 1], 0);
         }
         for (String act : ACTS) {
             String[] call = act.split(" ");
-            askAll(twins, call, new int[call.length - 1], 0, true);
+            askAll(call, new int[call.length - 1], 0);
         }
     }
 
-    private static void askAll(Twins twins, String[] call, int[] row, int at, boolean isAct)
-            throws ReflectiveOperationException {
+    private void askAll(String[] call, int[] row, int at) throws ReflectiveOperationException {
         if (at == row.length) {
-            twins.ask(call[0], row);
-            // Each act that was one is undone, so that all are asked of the same desk.
-            if (isAct && twins.model.trouble() == 0) {
-                twins.ask("size", 1);
-                twins.ask("size", 2);
-                twins.ask("about", 4);
-                twins.ask("about", 5);
-                twins.ask("undo");
-            }
+            ask(call[0], row);
             return;
         }
         for (int number : numbers(call[at + 1])) {
             row[at] = number;
-            askAll(twins, call, row, at + 1, isAct);
+            askAll(call, row, at + 1);
+        }
+    }
+
+    private void ask(String call, int[] row) throws ReflectiveOperationException {
+        if (rows >= ROWS_OF_ONE) {
+            twins = maker.make();
+            rows = 0;
+        }
+        rows++;
+        int kept = twins.model.size(1);
+        twins.ask(call, row);
+        // Each act that was one is undone, so that all are asked of the same desk.
+        if (twins.model.size(1) > kept) {
+            twins.ask("size", 1);
+            twins.ask("size", 2);
+            twins.ask("about", 4);
+            twins.ask("about", 5);
+            twins.ask("undo");
         }
     }
 
