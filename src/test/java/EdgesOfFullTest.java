@@ -146,6 +146,10 @@ public final class EdgesOfFullTest {
         Bench.good(x, "slack(9, 8, 0, 108)", x.slack(9, 8, 0, 108), 0);
         Bench.good(x, "slack(9, 8, 0, 119)", x.slack(9, 8, 0, 119), 99);
         Bench.good(x, "slack(9, 0, 91, 119)", x.slack(9, 0, 91, 119), 0);
+        Bench.good(x, "slack(8, 0, 0, 96): what leaves 9 then is too late", x.slack(8, 0, 0, 96), 0);
+        x.hold(9, 0);
+        Bench.good(x, "slack(8, 0, 0, 109): nobody who comes to 9 may wait", x.slack(8, 0, 0, 109), 0);
+        x.undo();
         Bench.good(x, "why(9, 8, 27, 0)", x.why(9, 8, 27, 0), 0);
         Bench.good(x, "why(9, 8, 28, 2)", x.why(9, 8, 28, 2), 3);
         Bench.good(x, "why(9, 8, 28, 3)", x.why(9, 8, 28, 3), 0);

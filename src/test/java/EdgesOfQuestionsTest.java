@@ -301,8 +301,14 @@ public final class EdgesOfQuestionsTest {
         y.extra(1, 1, 2, 20, 10);
         Bench.good(y, "steps(a, c): none by 0, one by 1 and 2", y.steps(0, 2), 1);
         Bench.good(y, "step(a, c, 0, 2): none by 0, one by 1 and 2", y.step(0, 2, 0, 2), 0);
+        // The same the other way round, behind a question that had one CHANGE a STEP.
+        LinkTimes z = Edges.desk();
+        z.extra(0, D, A, 0, 5);
+        z.extra(1, A, E, 10, 10);
+        z.extra(0, D, E, 0, 20);
+        Bench.good(z, "step(a, c, 2, 2)", z.step(A, C, 2, 2), 1);
+        Bench.good(z, "step(d, e, 0, 2): one by 8 and 9, none by 10", z.step(D, E, 0, 2), 0);
         // Of one LEAVES the sooner one counts alone, with its own CHANGES.
-        y.delay(0, 0);
         y.extra(0, 0, 2, 10, 21);
         y.cancel(0);
         Bench.good(y, "step(a, c, 0, 1) of 30 by one, 31 by none", y.step(0, 2, 0, 1), 30);

@@ -276,6 +276,13 @@ public final class EdgesOfTermsTest {
         best(x, "though its number is greater", 2);
         x.cancel(2);
         best(x, "two", 0, 1);
+        // A question ahead of it, by which one goes on from z with 2 alone, changes nothing.
+        x.run(2);
+        x.cancel(1);
+        x.extra(R, Z, N, 60, 5);
+        Bench.due("rides(s, n, 0): 2 and 3", x.rides(S, N, 0), 2);
+        x.run(1);
+        best(x, "behind another question", 2);
         // From m on by n, one more, though the row is less so.
         x = bare();
         x.extra(R, S, M, 10, 10);

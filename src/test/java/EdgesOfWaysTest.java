@@ -216,6 +216,11 @@ public final class EdgesOfWaysTest {
         // Two WAYS of one pair are one.
         x.extra(0, A, C, 50, 50);
         Bench.good(x, "trades(a, c, 0) with two of 100 by none", x.trades(A, C, 0), 2);
+        // No DEPARTURE but one that gets to z without a CHANGE; by one it is sooner all the same.
+        LinkTimes y = Bench.with("desk span 50;spot s change 1;spot m change 1;spot z change 1;line r;line g;"
+                + "link r s m from 5 till 5 every 1 takes 5;link r m z from 12 till 12 every 1 takes 18;"
+                + "link g m z from 12 till 12 every 1 takes 8");
+        Bench.good(y, "trades(s, z, 0): 30 by none, 20 by one", y.trades(0, 2, 0), 2);
     }
 
     private static void promise16LeftOut() {
