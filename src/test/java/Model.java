@@ -11,9 +11,9 @@ import java.util.TreeSet;
 
 /**
  * The document's words, done in the plainest and slowest way: all WAYS are written out one by one
- * and looked at. Good for small desks alone; the tests compare the class with it.
+ * and looked at. Good for small desks alone (WideModel is for others); the tests compare the class with it.
  */
-final class Model {
+class Model {
     static final int NONE = -1;
     static final int NO_WAY = -2;
 
@@ -41,7 +41,7 @@ final class Model {
     private int links;
     private List<Integer> change = new ArrayList<>();
     private List<Integer> wait = new ArrayList<>();
-    private List<Departure> departures = new ArrayList<>();
+    List<Departure> departures = new ArrayList<>();
     private final List<Back> acts = new ArrayList<>();
     private int trouble;
     private int fault;
@@ -180,7 +180,7 @@ final class Model {
         }
     }
 
-    private boolean follows(Departure last, Departure x) {
+    boolean follows(Departure last, Departure x) {
         if (x.cancelled || x.from != last.to) {
             return false;
         }
@@ -222,7 +222,7 @@ final class Model {
         return turns;
     }
 
-    private List<Integer> best(int a, int b, int t) {
+    List<Integer> best(int a, int b, int t) {
         Comparator<List<Integer>> order = Comparator.comparingInt((List<Integer> w) -> end(w, t))
                 .thenComparingInt(w -> turns(w))
                 .thenComparingInt(w -> -start(w, t))
@@ -302,7 +302,7 @@ final class Model {
     }
 
     /** The pairs of trades, by CHANGES rising; of each the latest start. */
-    private List<int[]> bargains(int a, int b, int t) {
+    List<int[]> bargains(int a, int b, int t) {
         List<List<Integer>> ways = ways(a, b, t);
         Map<Integer, int[]> found = new TreeMap<>();
         for (List<Integer> v : ways) {
@@ -343,14 +343,19 @@ final class Model {
         if (bad != 0) {
             return refuse(bad);
         }
-        return answer(ways(a, b, t).stream().filter(w -> turns(w) <= k).mapToInt(w -> end(w, t))
-                .min().orElse(NO_WAY));
+        return answer(soonestWithin(a, b, t, k));
+    }
+
+    /** When the first WAY with k CHANGES at most ARRIVES. */
+    int soonestWithin(int a, int b, int t, int k) {
+        return ways(a, b, t).stream().filter(w -> turns(w) <= k).mapToInt(w -> end(w, t))
+                .min().orElse(NO_WAY);
     }
 
     // ---- other questions
 
     /** When the BEST WAY ARRIVES; null if there is none. */
-    private Integer soonest(int a, int b, int t) {
+    Integer soonest(int a, int b, int t) {
         List<Integer> way = best(a, b, t);
         return way == null ? null : Integer.valueOf(end(way, t));
     }
@@ -360,11 +365,13 @@ final class Model {
         if (bad != 0) {
             return refuse(bad);
         }
-        if (a == b) {
-            return answer(by);
-        }
-        return answer(ways(a, b, 0).stream().filter(w -> end(w, 0) <= by).mapToInt(w -> start(w, 0))
-                .max().orElse(NO_WAY));
+        return answer(a == b ? by : lastStart(a, b, by));
+    }
+
+    /** When the last WAY that ARRIVES in time LEAVES. */
+    int lastStart(int a, int b, int by) {
+        return ways(a, b, 0).stream().filter(w -> end(w, 0) <= by).mapToInt(w -> start(w, 0))
+                .max().orElse(NO_WAY);
     }
 
     int reach(int a, int t, int by) {
@@ -425,7 +432,7 @@ final class Model {
         return answer(back == null ? NO_WAY : back);
     }
 
-    private List<int[]> profile(int a, int b) {
+    List<int[]> profile(int a, int b) {
         List<List<Integer>> ways = ways(a, b, 0);
         Map<Integer, int[]> found = new TreeMap<>();
         for (List<Integer> v : ways) {
@@ -470,6 +477,11 @@ final class Model {
         if (bad != 0) {
             return refuse(bad);
         }
+        return answer(ticks(a, b, from, till));
+    }
+
+    /** All that spent() tells, looked at tick by tick. */
+    int ticks(int a, int b, int from, int till) {
         List<List<Integer>> all = ways(a, b, from);
         int sum = 0;
         for (int t = from; t <= till; t++) {
@@ -477,11 +489,11 @@ final class Model {
             int end = all.stream().filter(w -> start(w, 0) >= ready).mapToInt(w -> end(w, 0))
                     .min().orElse(NONE);
             if (end == NONE) {
-                return answer(NO_WAY);
+                return NO_WAY;
             }
             sum += end - t;
         }
-        return answer(sum);
+        return sum;
     }
 
     private List<Integer> otherEnds(int a, int b, int t) {

@@ -2,18 +2,21 @@ import java.nio.charset.StandardCharsets;
 import java.util.Random;
 
 /**
- * Runs of calls on small desks, drawn with a fixed seed, each answer compared with the Model's
- * (promises 1 to 46 together), and texts with something wrong in them (promises 3, 4, 5).
+ * Runs of calls, drawn with a fixed seed, each answer compared with the Model's (promises 1 to 46
+ * together): on small desks, on wide ones with few ways, on dense ones with very many; and texts with
+ * something wrong in them (promises 3, 4, 5).
  */
 public final class RandomRunsTest {
     private static final int RUNS = 8500;
+    private static final int DENSE_RUNS = 50;
     private static final int CALLS = 140;
     private static final int TEXTS = 30000;
     private static final int MOST_SMALL = 13;
-    /** Times far from one another; near, so that many are alike; up to all that there is room for. */
+    /** Times far from one another; near, so that many are alike; up to all that there is room for; with long waits. */
     private static final int FAR_TIMES = 0;
     private static final int NEAR_TIMES = 1;
     private static final int WIDE = 2;
+    private static final int DENSE = 3;
 
     /** Calls with the sorts of their numbers: see number(). */
     private static final String[] CALLS_OF_THE_FACE = {
@@ -40,14 +43,19 @@ public final class RandomRunsTest {
 
     public static void main(String[] args) throws ReflectiveOperationException {
         for (int run = 0; run < RUNS; run++) {
-            new RandomRunsTest(run, run % 10 == 9 ? WIDE : run % 2).compareRun(run);
+            // The WideModel is held against the class on small desks too, where the Model is its measure.
+            Model model = run % 20 < 2 ? new WideModel() : new Model();
+            new RandomRunsTest(run, run % 10 == 9 ? WIDE : run % 2).compareRun("run " + run, model);
+        }
+        for (int run = 0; run < DENSE_RUNS; run++) {
+            new RandomRunsTest(run, DENSE).compareRun("dense run " + run, new WideModel());
         }
         new RandomRunsTest(4711, FAR_TIMES).compareTexts();
         Bench.end("RandomRunsTest");
     }
 
-    private void compareRun(int run) throws ReflectiveOperationException {
-        Twins twins = new Twins("run " + run);
+    private void compareRun(String name, Model model) throws ReflectiveOperationException {
+        Twins twins = new Twins(name, model);
         for (int i = 0; i < CALLS; i++) {
             if (i == 3 || random.nextInt(40) == 0) {
                 String text = deskText();
@@ -64,7 +72,14 @@ public final class RandomRunsTest {
 
     /** The Model writes all WAYS out: more departures, or long waits among many, would keep it too long. */
     private boolean isTooMuch(String call, int count) {
-        return sort == WIDE ? call.equals("hold") : call.equals("extra") && count >= MOST_SMALL;
+        switch (sort) {
+            case DENSE:
+                return false;
+            case WIDE:
+                return call.equals("hold");
+            default:
+                return call.equals("extra") && count >= MOST_SMALL;
+        }
     }
 
     private void compareCall(Twins twins, String[] call) throws ReflectiveOperationException {
@@ -108,7 +123,7 @@ public final class RandomRunsTest {
             case "d":
                 return random.nextInt(departures + 2);
             case "t":
-                int[] usual = {30, 7, 900};
+                int[] usual = {30, 7, 900, 60};
                 return random.nextInt(20) == 0 ? random.nextInt(2002) - 1 : random.nextInt(usual[sort]);
             case "w":
                 return random.nextInt(3) == 0 ? random.nextInt(10) - 1 : random.nextInt(3);
@@ -128,7 +143,37 @@ public final class RandomRunsTest {
     }
 
     private String deskText() {
-        return sort == WIDE ? wideText() : smallText();
+        return sort == DENSE ? denseText() : sort == WIDE ? wideText() : smallText();
+    }
+
+    /** Many departures that leave one soon behind the other, between few spots or many, by few lines or many. */
+    private String denseText() {
+        spots = 3 + random.nextInt(8);
+        int lines = 1 + random.nextInt(8);
+        int span = 30 + random.nextInt(90);
+        StringBuilder text = new StringBuilder("desk span ").append(span);
+        for (int s = 0; s < spots; s++) {
+            text.append(";spot ").append((char) ('a' + s)).append(" change ").append(random.nextInt(6));
+            if (random.nextInt(3) == 0) {
+                text.append(" wait ").append(random.nextInt(30));
+            }
+        }
+        for (int l = 0; l < lines; l++) {
+            text.append(";line ").append((char) ('p' + l));
+        }
+        boolean slowRing = random.nextBoolean();
+        for (int k = 0; k < 12; k++) {
+            // A ring at first, so that one comes to each spot; then links between any two.
+            boolean ring = k < spots;
+            int a = ring ? k : random.nextInt(spots);
+            int b = (a + 1 + (ring ? 0 : random.nextInt(spots - 1))) % spots;
+            int takes = slowRing ? ring ? 8 + random.nextInt(8) : 1 + random.nextInt(3) : 1 + random.nextInt(12);
+            text.append(";link ").append((char) ('p' + (slowRing && ring ? 0 : random.nextInt(lines))));
+            text.append(" ").append((char) ('a' + a)).append(" ").append((char) ('a' + b));
+            text.append(" from ").append(random.nextInt(9)).append(" till ").append(span - random.nextInt(9));
+            text.append(" every ").append(span / 9 + random.nextInt(3)).append(" takes ").append(takes);
+        }
+        return text.toString();
     }
 
     /** As many departures as there is room for, with waits so short that there are few WAYS. */

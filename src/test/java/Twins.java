@@ -8,11 +8,16 @@ final class Twins {
     private static final int OTHER_EXCEPTION = 888888;
 
     final LinkTimes x = new LinkTimes();
-    final Model model = new Model();
+    final Model model;
     private final String name;
 
     Twins(String name) {
+        this(name, new Model());
+    }
+
+    Twins(String name, Model model) {
         this.name = name;
+        this.model = model;
     }
 
     /** What the Model answers to a call that both are asked. */
