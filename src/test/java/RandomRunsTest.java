@@ -146,14 +146,18 @@ public final class RandomRunsTest {
         return sort == DENSE ? denseText() : sort == WIDE ? wideText() : smallText();
     }
 
-    /** Many departures that leave one soon behind the other, between few spots or many, by few lines or many. */
+    /**
+     * Many departures that leave one soon behind the other, between few spots or many, by few lines or many;
+     * of some desks all times are multiples of a number, so that many ways are alike.
+     */
     private String denseText() {
         spots = 3 + random.nextInt(8);
         int lines = 1 + random.nextInt(8);
-        int span = 30 + random.nextInt(90);
+        int beat = 1 + random.nextInt(4);
+        int span = beat * (20 + random.nextInt(30));
         StringBuilder text = new StringBuilder("desk span ").append(span);
         for (int s = 0; s < spots; s++) {
-            text.append(";spot ").append((char) ('a' + s)).append(" change ").append(random.nextInt(6));
+            text.append(";spot ").append((char) ('a' + s)).append(" change ").append(beat * random.nextInt(3));
             if (random.nextInt(3) == 0) {
                 text.append(" wait ").append(random.nextInt(30));
             }
@@ -167,11 +171,12 @@ public final class RandomRunsTest {
             boolean ring = k < spots;
             int a = ring ? k : random.nextInt(spots);
             int b = (a + 1 + (ring ? 0 : random.nextInt(spots - 1))) % spots;
-            int takes = slowRing ? ring ? 8 + random.nextInt(8) : 1 + random.nextInt(3) : 1 + random.nextInt(12);
+            int takes = beat * (slowRing && ring ? 4 + random.nextInt(4) : 1 + random.nextInt(3));
+            int every = beat * ((span / beat + 8) / 9 + random.nextInt(2));
             text.append(";link ").append((char) ('p' + (slowRing && ring ? 0 : random.nextInt(lines))));
             text.append(" ").append((char) ('a' + a)).append(" ").append((char) ('a' + b));
-            text.append(" from ").append(random.nextInt(9)).append(" till ").append(span - random.nextInt(9));
-            text.append(" every ").append(span / 9 + random.nextInt(3)).append(" takes ").append(takes);
+            text.append(" from ").append(beat * random.nextInt(4)).append(" till ").append(span - random.nextInt(9));
+            text.append(" every ").append(every).append(" takes ").append(takes);
         }
         return text.toString();
     }
